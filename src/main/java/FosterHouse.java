@@ -73,7 +73,7 @@ public final class FosterHouse {
             throw new IllegalStateException("there are as many children as can be");
         }
         int number = childCount;
-        children[number] = new Child(today - days, needs, family, place, tongue, leastLoadedWorker());
+        children[number] = new Child(number, today - days, needs, family, place, tongue, leastLoadedWorker());
         childCount = number + 1;
         return number;
     }
@@ -294,7 +294,7 @@ public final class FosterHouse {
     public int stay(int stay, int what) throws IndexOutOfBoundsException, IllegalArgumentException {
         Stay s = stayAt(stay);
         switch (what) {
-            case 0: return numberOf(s.child);
+            case 0: return s.child.number;
             case 1: return s.home.number;
             case 2: return s.from;
             case 3: return s.end;
@@ -378,15 +378,6 @@ public final class FosterHouse {
         return s;
     }
 
-    private int numberOf(Child sought) {
-        for (int number = 0; number < children.length; number++) {
-            if (children[number] == sought) {
-                return number;
-            }
-        }
-        return NONE;
-    }
-
     // ---- placing, money and loads inside
 
     /** The first of the bars 1 to 5, those that can still be looked at when the day is over. */
@@ -459,7 +450,7 @@ public final class FosterHouse {
         plan.clear();
         for (Home h : homes) {
             if (h != null) {
-                plan.addHome(h.number, h.beds - takenBeds(h, null));
+                plan.setBeds(h.number, h.beds - takenBeds(h, null));
             }
         }
         for (Child c : children) {
@@ -520,6 +511,7 @@ public final class FosterHouse {
         private static final int WISH_AWAY = 2;
         private static final int WISH_AWAY_BINDING = 3;
 
+        final int number;
         final int born;
         final int needs;
         final int kin;
@@ -533,7 +525,8 @@ public final class FosterHouse {
         Stay stay;
         int stays;
 
-        Child(int born, int needs, int kin, int place, int tongue, int worker) {
+        Child(int number, int born, int needs, int kin, int place, int tongue, int worker) {
+            this.number = number;
             this.born = born;
             this.needs = needs;
             this.kin = kin;
@@ -835,44 +828,47 @@ public final class FosterHouse {
         }
     }
 
-    /** The search for the best way to place several children at once; its rows are made once and used again. */
+    /**
+     * The search for the best way to place several children at once; its rows are made once and used again.
+     * What makes a way better is one number, a sum over its children and homes, each step of which outweighs all
+     * that is below it: children placed, fewer unlike homes, worths, lower homes for lower children. So the best
+     * way for a set of children can be built from the best ways for smaller sets, one home after the other.
+     */
     private static final class Plan {
         private static final int BARRED = -1000000;
+        private static final long IMPOSSIBLE = -1;
+        private static final int SETS = 1 << MOST_AT_ONCE;
+        private static final int[] RANKS = {14641, 1331, 121, 11, 1};
+        private static final long WORTH = 1L << 18;
+        private static final long UNLIKE = 1L << 29;
+        private static final long PLACED = 1L << 33;
 
         final Child[] kids;
+        final int[] chosen;
         final int[][] worths;
         final int[] free;
-        final int[] guests;
-        final int[] chosen;
-        final int[] best;
+        final int[][] guests;
+        final long[] gains;
+        final long[] values;
         int count;
-        int bestPlaced;
-        int bestUnlike;
-        int bestWorth;
+        int sets;
 
         Plan() {
             kids = new Child[MOST_AT_ONCE];
+            chosen = new int[MOST_AT_ONCE];
             worths = new int[MOST_AT_ONCE][MOST_HOMES];
             free = new int[MOST_HOMES];
-            guests = new int[MOST_HOMES];
-            chosen = new int[MOST_AT_ONCE];
-            best = new int[MOST_AT_ONCE];
+            guests = new int[MOST_HOMES][SETS];
+            gains = new long[SETS];
+            values = new long[SETS];
         }
 
         void clear() {
             count = 0;
-            for (int at = 0; at < MOST_AT_ONCE; at++) {
-                kids[at] = null;
-                chosen[at] = NONE;
-                best[at] = NONE;
-            }
-            for (int home = 0; home < MOST_HOMES; home++) {
-                free[home] = 0;
-                guests[home] = 0;
-            }
+            sets = 1;
         }
 
-        void addHome(int home, int freeBeds) {
+        void setBeds(int home, int freeBeds) {
             if (home >= 0 && home < MOST_HOMES) {
                 free[home] = freeBeds;
             }
@@ -888,6 +884,7 @@ public final class FosterHouse {
                 worths[row][home] = BARRED;
             }
             count = row + 1;
+            sets = 2 * sets;
             return row;
         }
 
@@ -898,83 +895,85 @@ public final class FosterHouse {
         }
 
         Child childAtRow(int row) {
-            return row >= 0 && row < MOST_AT_ONCE ? kids[row] : null;
+            return row >= 0 && row < count && row < MOST_AT_ONCE ? kids[row] : null;
         }
 
         int homeAtRow(int row) {
-            return row >= 0 && row < MOST_AT_ONCE ? best[row] : NONE;
+            return row >= 0 && row < count && row < MOST_AT_ONCE ? chosen[row] : NONE;
         }
 
         int search() {
-            bestPlaced = NONE;
-            bestUnlike = 0;
-            bestWorth = 0;
-            placeFrom(this, 0, 0, 0, 0);
-            return bestPlaced;
-        }
-
-        /** Goes through the ways lowest home first and none last, so of equal ways the first one stays. */
-        private static void placeFrom(Plan p, int at, int placed, int unlike, int worth) {
-            if (at < 0 || at >= p.count || at >= MOST_AT_ONCE) {
-                p.keepIfBetter(placed, unlike, worth);
-                return;
-            }
-            if (!p.canGetBetter(at, placed, unlike, worth)) {
-                return;
+            values[0] = 0;
+            for (int set = 1; set < SETS; set++) {
+                values[set] = IMPOSSIBLE;
             }
             for (int home = 0; home < MOST_HOMES; home++) {
-                if (p.worths[at][home] == BARRED || p.guests[home] >= p.free[home]) {
+                weighSets(home);
+                addHome(home);
+            }
+            int best = 0;
+            for (int set = 1; set < SETS; set++) {
+                if (values[set] > values[best]) {
+                    best = set;
+                }
+            }
+            choose(best);
+            return Integer.bitCount(best);
+        }
+
+        private void weighSets(int home) {
+            for (int set = 1; set < sets && set < SETS; set++) {
+                gains[set] = Integer.bitCount(set) > free[home] ? IMPOSSIBLE : gainOf(set, home);
+            }
+        }
+
+        private long gainOf(int set, int home) {
+            long gain = -UNLIKE;
+            for (int row = 0; row < MOST_AT_ONCE && row < RANKS.length; row++) {
+                if ((set >> row & 1) == 0) {
                     continue;
                 }
-                int more = p.guests[home] == 0 ? 1 : 0;
-                p.guests[home]++;
-                p.chosen[at] = home;
-                placeFrom(p, at + 1, placed + 1, unlike + more, worth + p.worths[at][home]);
-                p.guests[home]--;
-            }
-            p.chosen[at] = NONE;
-            placeFrom(p, at + 1, placed, unlike, worth);
-        }
-
-        /** Without this the ways of 5 children in 10 homes would be 161051. */
-        private boolean canGetBetter(int at, int placed, int unlike, int worth) {
-            int reach = placed + count - at;
-            if (reach != bestPlaced) {
-                return reach > bestPlaced;
-            }
-            if (unlike != bestUnlike) {
-                return unlike < bestUnlike;
-            }
-            return worth + mostWorthFrom(at) > bestWorth;
-        }
-
-        private int mostWorthFrom(int at) {
-            int sum = 0;
-            for (int row = at; row < count && row < MOST_AT_ONCE; row++) {
-                int most = BARRED;
-                for (int home = 0; home < MOST_HOMES; home++) {
-                    most = Math.max(most, worths[row][home]);
+                if (worths[row][home] == BARRED) {
+                    return IMPOSSIBLE;
                 }
-                sum += most;
+                gain += PLACED + WORTH * worths[row][home] + (MOST_HOMES - home) * RANKS[row];
             }
-            return sum;
+            return gain;
         }
 
-        private void keepIfBetter(int placed, int unlike, int worth) {
-            if (placed < bestPlaced) {
-                return;
+        /** From the largest set down, so that the values of smaller ones are still those without this home. */
+        private void addHome(int home) {
+            for (int all = Math.min(sets, SETS) - 1; all > 0; all--) {
+                int here = 0;
+                long most = values[all];
+                for (int set = 1; set <= all; set++) {
+                    if ((set & all) != set || gains[set] < 0 || values[all & ~set] < 0) {
+                        continue;
+                    }
+                    long value = values[all & ~set] + gains[set];
+                    if (value > most) {
+                        most = value;
+                        here = set;
+                    }
+                }
+                values[all] = most;
+                guests[home][all] = here;
             }
-            if (placed == bestPlaced && unlike > bestUnlike) {
-                return;
+        }
+
+        private void choose(int best) {
+            int left = best;
+            for (int row = 0; row < MOST_AT_ONCE; row++) {
+                chosen[row] = NONE;
             }
-            if (placed == bestPlaced && unlike == bestUnlike && worth <= bestWorth) {
-                return;
-            }
-            bestPlaced = placed;
-            bestUnlike = unlike;
-            bestWorth = worth;
-            for (int at = 0; at < MOST_AT_ONCE; at++) {
-                best[at] = at < count ? chosen[at] : NONE;
+            for (int home = MOST_HOMES - 1; home >= 0; home--) {
+                int here = left >= 0 && left < SETS ? guests[home][left] : 0;
+                for (int row = 0; row < MOST_AT_ONCE; row++) {
+                    if ((here >> row & 1) != 0) {
+                        chosen[row] = home;
+                    }
+                }
+                left &= ~here;
             }
         }
     }
