@@ -94,7 +94,7 @@ final class World {
         int answer = (Integer) got;
         if (call.equals("pass")) today = answer;
         if (call.equals("place")) stays++;
-        if (call.equals("placeAll")) stays += answer;
+        if (call.equals("placeAll")) stays += Math.max(0, Math.min(5, answer));
         return answer;
     }
 
@@ -163,13 +163,10 @@ final class World {
         for (int left = days; left > 0; left -= 400) ask("pass", Math.min(left, 400));
     }
 
-    /** Moves a child to and fro until there are so many stays. */
+    /** Moves a child to and fro until there are so many stays, first to this home. */
     void fillStays(int upTo, int kid, int home, int other) {
-        boolean isThere = false;
-        while (stays < upTo) {
-            ask("place", kid, isThere ? other : home);
-            isThere = !isThere;
-        }
+        int moves = upTo - stays;
+        for (int move = 0; move < moves; move++) ask("place", kid, move % 2 == 0 ? home : other);
     }
 
     /** If something was refused, all that can be asked in the calls that are left is to be as if it had not been told. */
